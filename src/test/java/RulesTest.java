@@ -1,0 +1,158 @@
+import java.io.IOException;
+import java.lang.reflect.Constructor;
+import java.lang.reflect.Field;
+import java.lang.reflect.Method;
+import java.lang.reflect.Modifier;
+import java.nio.file.Files;
+import java.nio.file.Path;
+import java.util.Arrays;
+import java.util.HashSet;
+import java.util.List;
+import java.util.Set;
+
+/** What can be looked at of LANGUAGE.md: the face, words ruled out, and that no call throws. */
+public final class RulesTest {
+    private static final Path SOURCE = Path.of("src/main/java/UndoStore.java");
+    private static final Set<String> FACE = Set.of(
+            "int open(int)", "long get(int,int)", "int put(int,int,int)", "int take(int,int)",
+            "int mark(int)", "int back(int,int)", "int commit(int)", "int abort(int)",
+            "int state(int)", "int told(int,int)", "int held(int,int)",
+            "int blocker(int,int,boolean)", "int waits(int)", "int ring()", "int size(int)",
+            "long next(int,int)", "long sum(int,int,int)");
+    private static final Set<String> CONSTANTS =
+            Set.of("NONE", "BLOCKED", "NOTHING", "HELD", "REFUSED");
+    private static final List<String> RULED_OUT = List.of("throw", "throws", "try", "catch",
+            "synchronized", "assert", "package", "volatile", "native", "Exact", "Random", "Thread");
+    private static final int[] ODD = {Integer.MIN_VALUE, -2, -1, 0, 1, 2, 3, 63, 64, 149, 150, 151,
+        511, 512, 513, Integer.MAX_VALUE};
+
+    public static void main(String[] args) throws IOException {
+        face();
+        nestedClasses();
+        words();
+        oddArguments(new UndoStore());
+        beyondTheLastCall();
+        Due.close();
+    }
+
+    private static void face() {
+        Due due = new Due("rule 1");
+        Set<String> names = new HashSet<>();
+        Set<String> visible = new HashSet<>();
+        for (Method method : UndoStore.class.getDeclaredMethods()) {
+            if (Modifier.isPublic(method.getModifiers())) {
+                visible.add(method.getReturnType() + " " + method.getName()
+                        + Arrays.toString(method.getParameterTypes())
+                                .replace('[', '(').replace(']', ')').replace(" ", ""));
+                names.add(method.getName());
+            }
+        }
+        due.holds("public methods are the face: " + visible, visible.equals(FACE));
+        for (Method method : UndoStore.class.getDeclaredMethods()) {
+            if (!Modifier.isPublic(method.getModifiers())) {
+                due.holds(method + " is private", Modifier.isPrivate(method.getModifiers()));
+                due.holds(method + " has its own name", !names.contains(method.getName()));
+            }
+        }
+        for (Field field : UndoStore.class.getDeclaredFields()) {
+            boolean constant = CONSTANTS.contains(field.getName());
+            due.holds(field + " is as visible as it should be", constant
+                    ? Modifier.isPublic(field.getModifiers())
+                    : Modifier.isPrivate(field.getModifiers()));
+            due.holds(field + " is final", Modifier.isFinal(field.getModifiers()));
+        }
+        Constructor<?>[] constructors = UndoStore.class.getDeclaredConstructors();
+        due.is("constructors", constructors.length, 1);
+        due.is("their parameters", constructors[0].getParameterCount(), 0);
+        due.holds("public and final", Modifier.isPublic(UndoStore.class.getModifiers())
+                && Modifier.isFinal(UndoStore.class.getModifiers()));
+    }
+
+    private static void nestedClasses() {
+        Due due = new Due("rules 2, 5 and 11");
+        Class<?>[] inside = UndoStore.class.getDeclaredClasses();
+        due.holds("some twelve classes", inside.length < 12);
+        for (Class<?> one : inside) {
+            due.holds(one + " is static", Modifier.isStatic(one.getModifiers()));
+            due.holds(one + " is private", Modifier.isPrivate(one.getModifiers()));
+            due.holds(one + " has few fields", one.getDeclaredFields().length <= 20);
+            for (Field field : one.getDeclaredFields()) {
+                due.holds(field + ": no static state", !Modifier.isStatic(field.getModifiers())
+                        || Modifier.isFinal(field.getModifiers()));
+            }
+            for (Method method : one.getDeclaredMethods()) {
+                due.holds(method + " has few parameters", method.getParameterCount() <= 7);
+            }
+        }
+    }
+
+    private static void words() throws IOException {
+        Due due = new Due("rules 2, 4 and 6");
+        String code = Files.readString(SOURCE)
+                .replaceAll("(?s)/\\*.*?\\*/", "").replaceAll("//.*", "");
+        Set<String> words = new HashSet<>(Arrays.asList(code.split("\\W+")));
+        for (String word : RULED_OUT) {
+            due.holds("without " + word, !words.contains(word));
+        }
+        due.holds("no lambda", !code.contains("->"));
+        due.holds("no method reference", !code.contains("::"));
+        for (String line : code.split("\n")) {
+            if (line.startsWith("import")) {
+                due.holds(line, line.equals("import java.util.Arrays;"));
+            }
+        }
+    }
+
+    /** Every call with every odd argument: it is enough that none of them throws. */
+    private static void oddArguments(UndoStore x) {
+        Due due = new Due("rule 7");
+        for (int t : ODD) {
+            x.open(t);
+            x.state(t);
+            x.waits(t);
+            x.size(t);
+            x.mark(t);
+            for (int n : ODD) {
+                x.put(t, n, n);
+                x.get(t, n);
+                x.take(t, n);
+                x.told(t, n);
+                x.held(t, n);
+                x.blocker(t, n, n > 0);
+                x.next(t, n);
+                x.sum(t, n, t);
+                x.back(t, n);
+                x.ring();
+            }
+        }
+        for (int t : ODD) {
+            x.commit(t);
+            x.abort(t);
+        }
+        due.holds("no call threw", true);
+    }
+
+    private static void beyondTheLastCall() {
+        Due due = new Due("rule 7");
+        UndoStore x = new UndoStore();
+        for (int i = 0; i < 5000; i++) {
+            x.open(i % 200 - 1);
+            x.put(i % 151, i, i);
+            x.get(i % 150, -i);
+            x.take(i % 149, i / 2);
+            x.mark(i % 30);
+            x.back(i % 29, i % 7);
+            x.ring();
+            x.size(i % 151);
+            x.next(i % 151, i);
+            x.sum(i % 151, -i, i);
+            x.told(i % 151, i % 7);
+            if (i % 50 == 49) {
+                x.commit(i / 50);
+                x.abort(i / 60);
+            }
+        }
+        oddArguments(x);
+        due.holds("no call threw", true);
+    }
+}
