@@ -17,6 +17,14 @@ final class Due {
         }
     }
 
+    void same(String claim, String got, String want) {
+        asked++;
+        if (!got.equals(want)) {
+            wrong++;
+            System.out.println(about + ": " + claim + "\n  is  " + got + "\n  due " + want);
+        }
+    }
+
     void holds(String claim, boolean isTrue) {
         is(claim, isTrue ? 1 : 0, 1);
     }

@@ -116,8 +116,8 @@ final class Model {
         Transaction parent = all.get(one.parent);
         parent.wrote.putAll(one.wrote);
         if (one.parent != 0) {
-            one.heldForWriting.forEach(
-                    (key, writing) -> parent.heldForWriting.merge(key, writing, Boolean::logicalOr));
+            one.heldForWriting.forEach((key, writing) ->
+                    parent.heldForWriting.merge(key, writing, Boolean::logicalOr));
         }
         int written = one.wrote.size();
         end(one, 1);

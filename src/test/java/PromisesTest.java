@@ -5,8 +5,8 @@ public final class PromisesTest {
     private static final long NOTHING = UndoStore.NOTHING;
     private static final long HELD = UndoStore.HELD;
     private static final long REFUSED = UndoStore.REFUSED;
-    private static final int LEAST = Integer.MIN_VALUE;
-    private static final int MOST = Integer.MAX_VALUE;
+    private static final int LEAST = Stores.LEAST;
+    private static final int MOST = Stores.MOST;
     /** Numbers that are never those of a transaction when two or fewer have been opened. */
     private static final int[] STRANGERS = {-1, 3, 150, 151, 512, LEAST, MOST};
 
@@ -46,24 +46,6 @@ public final class PromisesTest {
         manyKeys();
         objectsAreApart();
         Due.close();
-    }
-
-    /** An object with so many transactions in the store, none in another one. */
-    private static UndoStore withOpen(int transactions) {
-        UndoStore x = new UndoStore();
-        for (int i = 0; i < transactions; i++) {
-            x.open(0);
-        }
-        return x;
-    }
-
-    /** An object with so many transactions, each one lying in the one before. */
-    private static UndoStore withNested(int transactions) {
-        UndoStore x = new UndoStore();
-        for (int i = 0; i < transactions; i++) {
-            x.open(i);
-        }
-        return x;
     }
 
     private static void constants() {
@@ -121,7 +103,7 @@ public final class PromisesTest {
 
     private static void get() {
         Due due = new Due("promise 3");
-        UndoStore x = withNested(2);
+        UndoStore x = Stores.withNested(2);
         due.is("get of no key", x.get(1, 5), NOTHING);
         x.put(1, 5, -7);
         due.is("its own", x.get(1, 5), -7);
@@ -145,7 +127,7 @@ public final class PromisesTest {
 
     private static void getHolds() {
         Due due = new Due("promise 3");
-        UndoStore x = withOpen(3);
+        UndoStore x = Stores.withOpen(3);
         x.get(1, 4);
         due.is("held for reading, though there is none", x.held(1, 4), 1);
         due.is("two may read", x.get(2, 4), NOTHING);
@@ -160,7 +142,7 @@ public final class PromisesTest {
 
     private static void getOfTheStore() {
         Due due = new Due("promise 3");
-        UndoStore x = withOpen(2);
+        UndoStore x = Stores.withOpen(2);
         x.put(1, 3, 33);
         due.is("not yet committed, not blocked", x.get(0, 3), NOTHING);
         x.commit(1);
@@ -173,7 +155,7 @@ public final class PromisesTest {
 
     private static void put() {
         Due due = new Due("promise 4");
-        UndoStore x = withNested(2);
+        UndoStore x = Stores.withNested(2);
         due.is("saw none", x.put(1, 1, 10), 1);
         due.is("saw its own", x.put(1, 1, 10), 0);
         due.is("saw its parent's", x.put(2, 1, 20), 0);
@@ -194,7 +176,7 @@ public final class PromisesTest {
 
     private static void putIsBlocked() {
         Due due = new Due("promise 4");
-        UndoStore x = withOpen(2);
+        UndoStore x = Stores.withOpen(2);
         x.put(1, 1, 10);
         due.is("by a writer", x.put(2, 1, 20), BLOCKED);
         due.is("nothing happened: wrote", x.told(2, 3), 0);
@@ -211,7 +193,7 @@ public final class PromisesTest {
 
     private static void take() {
         Due due = new Due("promise 5");
-        UndoStore x = withNested(2);
+        UndoStore x = Stores.withNested(2);
         due.is("saw none", x.take(1, 1), 0);
         due.is("it writes all the same", x.told(1, 3), 1);
         due.is("and holds", x.held(1, 1), 2);
@@ -237,7 +219,7 @@ public final class PromisesTest {
 
     private static void mark() {
         Due due = new Due("promise 6");
-        UndoStore x = withOpen(2);
+        UndoStore x = Stores.withOpen(2);
         due.is("first", x.mark(1), 0);
         due.is("second", x.mark(1), 1);
         due.is("another one's first", x.mark(2), 0);
@@ -260,7 +242,7 @@ public final class PromisesTest {
 
     private static void back() {
         Due due = new Due("promise 7");
-        UndoStore x = withOpen(1);
+        UndoStore x = Stores.withOpen(1);
         due.is("no mark", x.back(1, 0), NONE);
         x.put(1, 1, 10);
         x.mark(1);
@@ -298,7 +280,7 @@ public final class PromisesTest {
 
     private static void backOverCommits() {
         Due due = new Due("promise 7");
-        UndoStore x = withNested(3);
+        UndoStore x = Stores.withNested(3);
         x.put(1, 1, 10);
         x.put(3, 2, 20);
         x.mark(1);
@@ -326,7 +308,7 @@ public final class PromisesTest {
 
     private static void backCountsNetChanges() {
         Due due = new Due("promise 7");
-        UndoStore x = withNested(2);
+        UndoStore x = Stores.withNested(2);
         x.put(1, 1, 1);
         x.put(2, 2, 2);
         x.take(2, 3);
@@ -356,7 +338,7 @@ public final class PromisesTest {
 
     private static void commit() {
         Due due = new Due("promise 8");
-        UndoStore x = withNested(2);
+        UndoStore x = Stores.withNested(2);
         x.put(2, 1, 10);
         x.put(2, 1, 11);
         x.take(2, 2);
@@ -388,7 +370,7 @@ public final class PromisesTest {
 
     private static void commitHandsOverHolds() {
         Due due = new Due("promise 8");
-        UndoStore x = withNested(2);
+        UndoStore x = Stores.withNested(2);
         x.open(0);
         x.get(1, 1);
         x.put(2, 1, 1);
@@ -414,7 +396,7 @@ public final class PromisesTest {
 
     private static void abort() {
         Due due = new Due("promise 9");
-        UndoStore x = withNested(3);
+        UndoStore x = Stores.withNested(3);
         x.open(2);
         x.open(1);
         x.open(0);
@@ -437,13 +419,13 @@ public final class PromisesTest {
         due.is("the rest", x.abort(1), 2);
         due.is("another one stays", x.state(6), 0);
         due.is("nothing came into the store", x.size(0), 0);
-        due.is("a chain of 150", withNested(150).abort(1), 150);
-        due.is("its end", withNested(150).abort(150), 1);
+        due.is("a chain of 150", Stores.withNested(150).abort(1), 150);
+        due.is("its end", Stores.withNested(150).abort(150), 1);
     }
 
     private static void state() {
         Due due = new Due("promise 10");
-        UndoStore x = withOpen(2);
+        UndoStore x = Stores.withOpen(2);
         due.is("active", x.state(1), 0);
         x.commit(1);
         due.is("committed", x.state(1), 1);
@@ -460,7 +442,7 @@ public final class PromisesTest {
 
     private static void told() {
         Due due = new Due("promise 11");
-        UndoStore x = withNested(2);
+        UndoStore x = Stores.withNested(2);
         x.open(1);
         x.open(2);
         x.abort(3);
@@ -495,7 +477,7 @@ public final class PromisesTest {
 
     private static void toldOfThoseThatEnded() {
         Due due = new Due("promise 11");
-        UndoStore x = withNested(3);
+        UndoStore x = Stores.withNested(3);
         for (int t = 1; t <= 3; t++) {
             x.put(t, t, t);
             x.get(t, 10 + t);
@@ -518,7 +500,7 @@ public final class PromisesTest {
 
     private static void held() {
         Due due = new Due("promise 12");
-        UndoStore x = withNested(2);
+        UndoStore x = Stores.withNested(2);
         x.get(1, 1);
         x.put(1, 2, 2);
         x.take(1, 3);
@@ -539,7 +521,7 @@ public final class PromisesTest {
 
     private static void blocker() {
         Due due = new Due("promise 13");
-        UndoStore x = withOpen(4);
+        UndoStore x = Stores.withOpen(4);
         x.get(3, 1);
         x.get(2, 1);
         x.put(4, 2, 2);
@@ -563,7 +545,7 @@ public final class PromisesTest {
 
     private static void blockerLeavesOutAncestorsAlone() {
         Due due = new Due("promise 13");
-        UndoStore x = withNested(3);
+        UndoStore x = Stores.withNested(3);
         x.open(1);
         x.put(1, 1, 1);
         due.is("grandparent", x.blocker(3, 1, true), 0);
@@ -583,7 +565,7 @@ public final class PromisesTest {
 
     private static void waits() {
         Due due = new Due("promise 14");
-        UndoStore x = withOpen(5);
+        UndoStore x = Stores.withOpen(5);
         due.is("not at first", x.waits(3), 0);
         x.get(2, 1);
         x.get(1, 1);
@@ -616,7 +598,7 @@ public final class PromisesTest {
 
     private static void waitsEndWithTheNextCall() {
         Due due = new Due("promise 14");
-        UndoStore x = withOpen(2);
+        UndoStore x = Stores.withOpen(2);
         x.put(1, 1, 1);
         x.put(1, 2, 2);
         x.get(2, 1);
@@ -651,7 +633,7 @@ public final class PromisesTest {
 
     private static void ring() {
         Due due = new Due("promise 15");
-        UndoStore x = withOpen(4);
+        UndoStore x = Stores.withOpen(4);
         for (int t = 1; t <= 4; t++) {
             x.put(t, t, t);
         }
@@ -675,7 +657,7 @@ public final class PromisesTest {
 
     private static void ringIsNoTail() {
         Due due = new Due("promise 15");
-        UndoStore x = withNested(2);
+        UndoStore x = Stores.withNested(2);
         x.put(2, 1, 1);
         x.get(1, 1);
         due.is("a parent waits for its child alone", x.ring(), 0);
@@ -690,7 +672,7 @@ public final class PromisesTest {
         due.is("1 and 3", x.ring(), 1);
         x.abort(3);
         due.is("none", x.ring(), 0);
-        UndoStore y = withOpen(4);
+        UndoStore y = Stores.withOpen(4);
         y.put(1, 1, 1);
         y.get(2, 2);
         y.get(3, 2);
@@ -702,7 +684,7 @@ public final class PromisesTest {
 
     private static void ringWithMany() {
         Due due = new Due("promise 15");
-        UndoStore x = withOpen(150);
+        UndoStore x = Stores.withOpen(150);
         for (int t = 1; t <= 150; t++) {
             x.put(t, t, t);
         }
@@ -722,7 +704,7 @@ public final class PromisesTest {
 
     private static void size() {
         Due due = new Due("promise 16");
-        UndoStore x = withNested(2);
+        UndoStore x = Stores.withNested(2);
         x.put(1, 1, 1);
         x.put(1, 2, 2);
         x.get(1, 7);
@@ -750,7 +732,7 @@ public final class PromisesTest {
 
     private static void next() {
         Due due = new Due("promise 17");
-        UndoStore x = withNested(2);
+        UndoStore x = Stores.withNested(2);
         x.put(1, 10, 1);
         x.put(1, LEAST, 1);
         x.put(1, MOST, 1);
@@ -775,7 +757,7 @@ public final class PromisesTest {
 
     private static void sum() {
         Due due = new Due("promise 18");
-        UndoStore x = withNested(2);
+        UndoStore x = Stores.withNested(2);
         x.put(1, 1, MOST);
         x.put(1, 2, MOST);
         x.put(1, LEAST, LEAST);
@@ -803,7 +785,7 @@ public final class PromisesTest {
 
     private static void looksHoldNothing() {
         Due due = new Due("promises 16 to 18");
-        UndoStore x = withOpen(2);
+        UndoStore x = Stores.withOpen(2);
         x.put(1, 1, 1);
         x.put(2, 2, 2);
         x.get(2, 1);
@@ -818,7 +800,7 @@ public final class PromisesTest {
     /** As many keys as calls allow, and as many that are only read. */
     private static void manyKeys() {
         Due due = new Due("many keys");
-        UndoStore x = withOpen(1);
+        UndoStore x = Stores.withOpen(1);
         for (int i = 0; i < 505; i++) {
             due.is("put", x.put(1, i * 8_000_000 + LEAST, MOST), 1);
         }
@@ -828,13 +810,13 @@ public final class PromisesTest {
         due.is("held for writing", x.told(1, 5), 505);
         due.is("commit", x.commit(1), 505);
         due.is("size", x.size(0), 505);
-        UndoStore y = withOpen(1);
+        UndoStore y = Stores.withOpen(1);
         for (int i = 0; i < 509; i++) {
             due.is("get", y.get(1, -i), NOTHING);
         }
         due.is("held for reading", y.told(1, 4), 509);
         due.is("the 512th call", y.put(1, 1, 1), 1);
-        UndoStore z = withOpen(1);
+        UndoStore z = Stores.withOpen(1);
         for (int i = 0; i < 510; i++) {
             due.is("mark", z.mark(1), i);
         }
@@ -843,8 +825,8 @@ public final class PromisesTest {
 
     private static void objectsAreApart() {
         Due due = new Due("two objects");
-        UndoStore x = withOpen(1);
-        UndoStore y = withOpen(1);
+        UndoStore x = Stores.withOpen(1);
+        UndoStore y = Stores.withOpen(1);
         x.put(1, 1, 1);
         due.is("sees nothing of the other one", y.get(1, 1), NOTHING);
         due.is("holds its own", y.put(1, 1, 2), 1);

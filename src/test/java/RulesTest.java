@@ -1,4 +1,5 @@
 import java.io.IOException;
+import java.lang.reflect.Array;
 import java.lang.reflect.Constructor;
 import java.lang.reflect.Field;
 import java.lang.reflect.Method;
@@ -32,6 +33,7 @@ public final class RulesTest {
         words();
         oddArguments(new UndoStore());
         beyondTheLastCall();
+        room();
         Due.close();
     }
 
@@ -130,6 +132,40 @@ public final class RulesTest {
             x.abort(t);
         }
         due.holds("no call threw", true);
+    }
+
+    /** All objects of a run share one room: calls keep nothing new, and one object takes little. */
+    private static void room() {
+        Due due = new Due("rule 12");
+        UndoStore x = new UndoStore();
+        long before = elementsOf(x);
+        due.holds("fewer than 10,000 fields and elements, not " + before, before < 10_000);
+        for (int i = 0; i < 128; i++) {
+            x.open(i / 2);
+            x.put(i + 1, i, i);
+            x.mark(i + 1);
+            x.get(1, i + 1000);
+        }
+        due.is("after 512 calls", elementsOf(x), before);
+    }
+
+    private static long elementsOf(Object one) {
+        if (one.getClass().isArray()) {
+            return Array.getLength(one);
+        }
+        long elements = 0;
+        try {
+            for (Field field : one.getClass().getDeclaredFields()) {
+                if (!Modifier.isStatic(field.getModifiers())) {
+                    field.setAccessible(true);
+                    elements++;
+                    elements += field.getType().isPrimitive() ? 0 : elementsOf(field.get(one));
+                }
+            }
+        } catch (IllegalAccessException e) {
+            throw new IllegalStateException(e);
+        }
+        return elements;
     }
 
     private static void beyondTheLastCall() {
