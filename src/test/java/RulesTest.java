@@ -33,6 +33,7 @@ public final class RulesTest {
         words();
         oddArguments(new UndoStore());
         beyondTheLastCall();
+        noRoomLeft();
         room();
         Due.close();
     }
@@ -166,6 +167,59 @@ public final class RulesTest {
             throw new IllegalStateException(e);
         }
         return elements;
+    }
+
+    /** Far more calls of each kind than there may be, then all that goes over what they left. */
+    private static void noRoomLeft() {
+        Due due = new Due("rule 7");
+        for (int kind = 0; kind < 4; kind++) {
+            UndoStore x = Stores.withNested(3);
+            x.open(0);
+            x.put(4, 0, 0);
+            x.get(1, 0);
+            x.mark(3);
+            for (int i = 0; i < 1000; i++) {
+                useUp(x, kind, i);
+            }
+            goOverAll(x);
+        }
+        due.holds("no call threw", true);
+    }
+
+    private static void useUp(UndoStore x, int kind, int i) {
+        if (kind == 0) {
+            x.put(3, 1, i);
+        } else if (kind == 1) {
+            x.get(3, i);
+        } else if (kind == 2) {
+            x.mark(3);
+        } else {
+            x.put(3, i, i);
+            x.mark(3);
+        }
+    }
+
+    private static void goOverAll(UndoStore x) {
+        for (int what = 0; what <= 5; what++) {
+            x.told(3, what);
+        }
+        x.get(3, 0);
+        x.put(4, 1, 1);
+        x.ring();
+        x.waits(3);
+        x.held(3, 1);
+        x.blocker(1, 1, true);
+        x.back(3, 1);
+        x.back(3, 0);
+        x.back(3, 1000);
+        x.commit(3);
+        x.size(2);
+        x.next(2, 0);
+        x.sum(2, 0, 1000);
+        x.abort(2);
+        x.commit(1);
+        x.commit(4);
+        x.size(0);
     }
 
     private static void beyondTheLastCall() {
